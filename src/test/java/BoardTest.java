@@ -1,0 +1,172 @@
+/** Promises 9 to 16: the board. */
+final class BoardTest {
+    private static final Checks C = new Checks();
+    private static final int[] WRONG = {-1, 4, Integer.MIN_VALUE, Integer.MAX_VALUE};
+    private static final int[] WRONG_SQUARES = {-1, 68, Integer.MIN_VALUE, Integer.MAX_VALUE};
+    private static final int[] WRONG_TEAMS = {-1, 2, 3, Integer.MIN_VALUE, Integer.MAX_VALUE};
+
+    public static void main(String[] args) {
+        positions();
+        squares();
+        standing();
+        safeSquares();
+        home();
+        captures();
+        winner();
+        distance();
+        wrongPlayersAndPieces();
+        wrongSquaresAndTeams();
+        C.end("BoardTest");
+    }
+
+    private static void positions() {
+        PachisiYard game = Scenes.played(C, "0>3 0>3 5>3 | 6>2 4>2 | 1>1 2>1 | 6>0 5>0");
+        int[][] due = {{0, 0, 0, 31}, {0, 0, 5, 0}, {0, 3, 0, 0}, {6, 0, 0, 0}};
+        for (int player = 0; player < 4; player++) {
+            for (int piece = 0; piece < 4; piece++) {
+                C.due("position(" + player + ", " + piece + ")", game.position(player, piece), due[player][piece]);
+            }
+        }
+    }
+
+    private static void squares() {
+        PachisiYard game = Scenes.played(C, "0>3 0>3 5>3 | 6>2 4>2 | 1>1 2>1 | 6>0 5>0");
+        int[][] due = {{-1, -1, -1, 34}, {-1, -1, 25, -1}, {-1, 40, -1, -1}, {60, -1, -1, -1}};
+        for (int player = 0; player < 4; player++) {
+            for (int piece = 0; piece < 4; piece++) {
+                C.due("square(" + player + ", " + piece + ")", game.square(player, piece), due[player][piece]);
+            }
+        }
+        int[] entries = {4, 21, 38, 55};
+        PachisiYard entered = Scenes.played(C, "6>0 6>1 6 | 6>0 6>1 6 | 6>0 6>1 6 | 6>0 6>1 6");
+        for (int player = 0; player < 4; player++) {
+            C.due("entry of player " + player, entered.square(player, 1), entries[player]);
+        }
+        PachisiYard round = Scenes.played(C, "2 | 2 | 2 | 6>0 1>0 2>0");
+        C.due("ahead of square 0", round.square(3, 0), 67);
+        C.play(round, "2 | 2 | 2 | 2>0");
+        C.due("round past square 67", round.square(3, 0), 1);
+        PachisiYard lane = Scenes.played(C, "0>0 0>0 5>0 | 2 | 2 | 2 | 0>0 5>0 | 2 | 2 | 2 | 3>0 | 2 | 2 | 2");
+        C.due("position 64", lane.square(0, 0), 67);
+        C.play(lane, "2>0");
+        C.due("position 66", lane.square(0, 0), -1);
+        C.due("home", Scenes.playerZeroHome(C).square(0, 0), -1);
+    }
+
+    private static void standing() {
+        PachisiYard fresh = new PachisiYard();
+        for (int square = 0; square < 68; square++) {
+            C.due("new: standing", fresh.standing(square, 0) + fresh.standing(square, 1), 0);
+        }
+        PachisiYard game = Scenes.mixedCastle(C);
+        for (int square = 0; square < 68; square++) {
+            C.due("team 0 on " + square, game.standing(square, 0), square == 19 ? 1 : 0);
+            C.due("team 1 on " + square, game.standing(square, 1), square == 21 ? 2 : square == 25 ? 1 : 0);
+        }
+        PachisiYard onEdges = Scenes.played(C, "2 | 2 | 2 | 6>0 1>0 2>0");
+        C.due("square 67", onEdges.standing(67, 1), 1);
+        C.due("square 67, the other team", onEdges.standing(67, 0), 0);
+        PachisiYard own = Scenes.ownCastle(C);
+        C.due("the partner's castle", own.standing(38, 0), 2);
+        C.play(own, "4>0");
+        C.due("three on a square", own.standing(38, 0), 3);
+        C.due("left", own.standing(34, 0), 0);
+    }
+
+    private static void safeSquares() {
+        PachisiYard game = new PachisiYard();
+        for (int square = 0; square < 68; square++) {
+            boolean safe = false;
+            for (int due : new int[] {4, 11, 21, 28, 38, 45, 55, 62}) {
+                safe |= due == square;
+            }
+            C.due("isSafe(" + square + ")", game.isSafe(square), safe);
+        }
+    }
+
+    private static void home() {
+        PachisiYard game = Scenes.lastPieceAtSeventy(C, 0);
+        C.due("player 0", game.home(0), 4);
+        C.due("player 1", game.home(1), 0);
+        C.due("player 2", game.home(2), 3);
+        C.due("player 3", game.home(3), 0);
+        C.play(game, "2>3");
+        C.due("player 2 at last", game.home(2), 4);
+    }
+
+    private static void captures() {
+        PachisiYard game = Scenes.fiveBehind(C);
+        C.play(game, "5>0");
+        C.due("captured by 0", game.captures(0), 1);
+        for (int player = 1; player < 4; player++) {
+            C.due("captured by " + player, game.captures(player), 0);
+        }
+        C.play(game, "3>0 | 6>0 1>0 2>0 | 2 | 2 | 6>0");
+        C.due("captured by 0 again", game.captures(0), 2);
+        C.due("the captured", game.position(1, 0), 0);
+        PachisiYard other = Scenes.played(C, "2 | 6>0 1>0 5>0 | 6>0 3>0 | 2 | 2 | 5>0");
+        int[] due = {0, 1, 0, 0};
+        for (int player = 0; player < 4; player++) {
+            C.due("captured by " + player, other.captures(player), due[player]);
+        }
+        PachisiYard partner = Scenes.partnerFiveBehind(C);
+        C.play(partner, "5>0");
+        C.due("with the partner's piece", partner.captures(0), 1);
+        C.due("by the partner", partner.captures(2), 0);
+    }
+
+    private static void winner() {
+        for (int team = 0; team < 2; team++) {
+            PachisiYard game = Scenes.lastPieceAtSeventy(C, team);
+            C.due("not over", game.winner(), -1);
+            C.play(game, "2>3");
+            C.due("over", game.winner(), team);
+        }
+        C.due("one player home is not over", Scenes.playerZeroHome(C).winner(), -1);
+    }
+
+    private static void distance() {
+        PachisiYard fresh = new PachisiYard();
+        C.due("new: team 0", fresh.distance(0), 576);
+        C.due("new: team 1", fresh.distance(1), 576);
+        PachisiYard game = Scenes.played(C, "0>3 0>3 5>3 | 6>2 4>2 | 1>1 2>1 | 6>0 5>0");
+        C.due("team 0", game.distance(0), 576 - 31 - 3);
+        C.due("team 1", game.distance(1), 576 - 5 - 6);
+        PachisiYard captured = Scenes.fiveBehind(C);
+        C.due("ahead of the capture", captured.distance(1), 572);
+        C.play(captured, "5>0");
+        C.due("after the capture", captured.distance(1), 576);
+        C.due("of the capturers", captured.distance(0), 555);
+        PachisiYard last = Scenes.lastPieceAtSeventy(C, 1);
+        C.due("two away", last.distance(1), 2);
+        C.play(last, "2>3");
+        C.due("won", last.distance(1), 0);
+        C.due("lost", last.distance(0), 576);
+    }
+
+    private static void wrongPlayersAndPieces() {
+        PachisiYard game = Scenes.fiveBehind(C);
+        for (int wrong : WRONG) {
+            C.outOfBounds("position, player " + wrong, game, () -> game.position(wrong, 0));
+            C.outOfBounds("position, piece " + wrong, game, () -> game.position(0, wrong));
+            C.outOfBounds("position, both " + wrong, game, () -> game.position(wrong, wrong));
+            C.outOfBounds("square, player " + wrong, game, () -> game.square(wrong, 0));
+            C.outOfBounds("square, piece " + wrong, game, () -> game.square(0, wrong));
+            C.outOfBounds("home " + wrong, game, () -> game.home(wrong));
+            C.outOfBounds("captures " + wrong, game, () -> game.captures(wrong));
+        }
+    }
+
+    private static void wrongSquaresAndTeams() {
+        PachisiYard game = Scenes.fiveBehind(C);
+        for (int wrong : WRONG_SQUARES) {
+            C.outOfBounds("isSafe " + wrong, game, () -> game.isSafe(wrong));
+            C.outOfBounds("standing, square " + wrong, game, () -> game.standing(wrong, 0));
+            C.outOfBounds("standing, square " + wrong + " goes first", game, () -> game.standing(wrong, 2));
+        }
+        for (int wrong : WRONG_TEAMS) {
+            C.badArgument("standing, team " + wrong, game, () -> game.standing(0, wrong));
+            C.badArgument("distance, team " + wrong, game, () -> game.distance(wrong));
+        }
+    }
+}
