@@ -50,6 +50,9 @@ final class BoardTest {
         C.due("position 64", lane.square(0, 0), 67);
         C.play(lane, "2>0");
         C.due("position 66", lane.square(0, 0), -1);
+        PachisiYard first = Scenes.played(C, "0>0 0>0 5>0 | 2 | 2 | 2 | 0>0 5>0 | 2 | 2 | 2 | 4>0");
+        C.due("the lane's first position", first.position(0, 0), 65);
+        C.due("position 65", first.square(0, 0), -1);
         C.due("home", Scenes.playerZeroHome(C).square(0, 0), -1);
     }
 
@@ -66,6 +69,12 @@ final class BoardTest {
         PachisiYard onEdges = Scenes.played(C, "2 | 2 | 2 | 6>0 1>0 2>0");
         C.due("square 67", onEdges.standing(67, 1), 1);
         C.due("square 67, the other team", onEdges.standing(67, 0), 0);
+        PachisiYard even = Scenes.played(C, "2 | 2 | 0>0 0>0 5>0");
+        C.due("square 0, team 0", even.standing(0, 0), 1);
+        C.due("square 0, not team 1", even.standing(0, 1), 0);
+        PachisiYard odd = Scenes.played(C, "2 | 2 | 2 | 0>0 1>0 3>0");
+        C.due("square 0, team 1", odd.standing(0, 1), 1);
+        C.due("square 0, not team 0", odd.standing(0, 0), 0);
         PachisiYard own = Scenes.ownCastle(C);
         C.due("the partner's castle", own.standing(38, 0), 2);
         C.play(own, "4>0");

@@ -111,6 +111,13 @@ final class ChanceTest {
         PachisiYard two = Scenes.played(C, "1>0 1>0 2>0 | 1>2 0>0 2>0 | 4 | 5 | 3>0 | 4>2 | 4 | 2");
         C.due("this piece alone, four ahead", two.threat(1, 0, 0), 15);
         C.due("this piece alone, six ahead", two.threat(1, 2, 0), 1);
+        PachisiYard far = Scenes.played(C, "2 | 6>0 5>0 | 0>0 2>0 | 2 | 2 | 2>0");
+        C.due("ten and more behind", far.square(2, 0) - far.square(1, 0), 12);
+        C.due("out of reach", far.threat(2, 0, 1), 0);
+        PachisiYard ten = Scenes.tenBehind(C);
+        C.due("ten behind", ten.threat(1, 0, 0), 6);
+        PachisiYard most = Scenes.played(C, "6>0 5>0 | 6>0 1>0 3>0 | 2 | 2");
+        C.due("25 behind", most.threat(1, 0, 0), 1);
         PachisiYard lane = Scenes.played(C, "0>0 0>0 5>0 | 2 | 2 | 2 | 0>0 1>0 4>0");
         C.due("on the lane", lane.threat(0, 0, 1), 0);
         PachisiYard over = Scenes.lastPieceAtSeventy(C, 0);
@@ -171,6 +178,8 @@ final class ChanceTest {
         // 5 captures at once; a grace that enters a piece leaves the 5 for the next throw: 6 * 64 + 8 * 6, and so on.
         dueChances("five behind", Scenes.fiveBehind(C), 6, 432, 28032);
         dueChances("a castle", Scenes.shielded(C), 0, 0, 0);
+        // 10 and then 5; with three throws another grace may go ahead or between, at best to enter a piece.
+        dueChances("15 behind", Scenes.played(C, "6>0 5>0 | 6>0 3>0 | 2 | 2"), 0, 36, 2664);
     }
 
     private static void chancesWithGracesAhead() {

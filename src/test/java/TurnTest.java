@@ -168,6 +168,12 @@ final class TurnTest {
         dueState(game, "throws again", 0, 0, 0, 0);
         C.play(game, "2>0");
         dueState(game, "the turn goes on", 0, 1, 1, 0);
+        for (int piece = 0; piece < 4; piece++) {
+            PachisiYard any = Scenes.played(C, "6>3 1>3 5>3 | 6>P 3>P | 2 | 2 | 5>3".replace("P", "" + piece));
+            C.due("any piece is captured", any.position(1, piece), 0);
+            C.due("by any piece", any.position(0, 3), 21);
+            C.due("counted", any.captures(0), 1);
+        }
         PachisiYard shorter = Scenes.fiveBehind(C);
         shorter.throwShells(4);
         C.due("no capture short of the piece", shorter.move(0), 20);
@@ -200,6 +206,11 @@ final class TurnTest {
         game.throwShells(5);
         C.notNow("coming to stand on the castle", game, () -> game.move(0));
         C.due("the other piece moves", game.move(1), 9);
+        PachisiYard ahead = Scenes.played(C, "6>0 1>0 5>0 | 2 | 2 | 2 | 3>0 | 6>0 6>1 6 | 2 | 2");
+        C.due("a castle behind", ahead.standing(21, 1), 2);
+        C.due("just behind", ahead.square(0, 0), 22);
+        C.due("does not block", ahead.throwShells(2), 2);
+        C.due("goes on", ahead.move(0), 21);
     }
 
     private static void castlesOfTwoPlayersBlock() {
