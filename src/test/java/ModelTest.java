@@ -162,11 +162,11 @@ final class ModelTest {
 
     private void askWrongly() {
         int which = random.nextInt(QUESTIONS.length + 2);
-        String question = which < QUESTIONS.length ? QUESTIONS[which] : which == QUESTIONS.length ? "move" : "throwShells";
+        boolean playing = which >= QUESTIONS.length;
+        String question = !playing ? QUESTIONS[which] : which == QUESTIONS.length ? "move" : "throwShells";
         int wrong = EXTREMES[random.nextInt(EXTREMES.length)];
         int side = random.nextInt(7);
-        boolean harmless = question.equals("move") || question.equals("throwShells");
-        call(question, harmless || (side & 1) == 0 ? wrong : random.nextInt(4),
+        call(question, playing || (side & 1) == 0 ? wrong : random.nextInt(4),
                 (side & 2) == 0 ? wrong : random.nextInt(4), (side & 4) == 0 ? wrong : random.nextInt(4));
     }
 

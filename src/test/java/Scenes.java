@@ -76,7 +76,7 @@ final class Scenes {
         return game;
     }
 
-    /** Player 0 to throw with piece 3 on position 66 and the others home; piece 0 of player 2 is five behind player 3. */
+    /** Player 0 to throw, piece 3 on position 66, the others home; piece 0 of player 2 is five behind player 3. */
     static PachisiYard lastSixAway(Checks c) {
         PachisiYard game = threeHome(c);
         c.play(game, "0>3 0>3 5>3 | 2 | 2 | 2 | 0>3 5>3 | 2 | 2 | 2 | 5>3 | 2 | 6>0 1>0 5>0 | 6>0 3>0");
