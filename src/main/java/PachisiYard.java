@@ -289,7 +289,10 @@ public final class PachisiYard {
 
     private int chanceAfterGrace(int mouths, int throwsLeft, int graceRow) {
         int player = board.moverFor(turn);
-        int best = NOWHERE;
+        if (board.movableSet(player, mouths) == 0) {
+            return chanceWithin(throwsLeft, graceRow);
+        }
+        int best = 0;
         for (int piece = 0; piece < PIECES; piece++) {
             int target = board.targetOf(player, piece, mouths);
             if (target != NOWHERE) {
@@ -300,7 +303,7 @@ public final class PachisiYard {
                 board.place(player, piece, start);
             }
         }
-        return best == NOWHERE ? chanceWithin(throwsLeft, graceRow) : best;
+        return best;
     }
 
     private static int certainty(int throwsLeft) {
