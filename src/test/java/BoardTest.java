@@ -1,9 +1,6 @@
 /** Promises 9 to 16: the board. */
 final class BoardTest {
     private static final Checks C = new Checks();
-    private static final int[] WRONG = {-1, 4, Integer.MIN_VALUE, Integer.MAX_VALUE};
-    private static final int[] WRONG_SQUARES = {-1, 68, Integer.MIN_VALUE, Integer.MAX_VALUE};
-    private static final int[] WRONG_TEAMS = {-1, 2, 3, Integer.MIN_VALUE, Integer.MAX_VALUE};
 
     public static void main(String[] args) {
         positions();
@@ -14,8 +11,10 @@ final class BoardTest {
         captures();
         winner();
         distance();
-        wrongPlayersAndPieces();
-        wrongSquaresAndTeams();
+        homeOfEachPlayer();
+        capturedOfEachPlayer();
+        samePositionIsNotSameSquare();
+        distanceOfEachPiece();
         C.end("BoardTest");
     }
 
@@ -153,29 +152,78 @@ final class BoardTest {
         C.due("lost", last.distance(0), 576);
     }
 
-    private static void wrongPlayersAndPieces() {
-        PachisiYard game = Scenes.fiveBehind(C);
-        for (int wrong : WRONG) {
-            C.outOfBounds("position, player " + wrong, game, () -> game.position(wrong, 0));
-            C.outOfBounds("position, piece " + wrong, game, () -> game.position(0, wrong));
-            C.outOfBounds("position, both " + wrong, game, () -> game.position(wrong, wrong));
-            C.outOfBounds("square, player " + wrong, game, () -> game.square(wrong, 0));
-            C.outOfBounds("square, piece " + wrong, game, () -> game.square(0, wrong));
-            C.outOfBounds("home " + wrong, game, () -> game.home(wrong));
-            C.outOfBounds("captures " + wrong, game, () -> game.captures(wrong));
+    // "Returns 0 to 4."
+    private static void homeOfEachPlayer() {
+        int[][] own = {{}, {72}, {72, 72}, {72, 72, 72}, {72, 72, 72, 72}};
+        for (int player = 0; player < 4; player++) {
+            for (int count = 0; count <= 4; count++) {
+                PachisiYard game = Scenes.placed(C, 0, Scenes.seenBy(player, own[count], new int[0], new int[0],
+                        new int[0]));
+                for (int other = 0; other < 4; other++) {
+                    C.due("home", game.home(other), other == player ? count : 0);
+                }
+                C.due("distance", game.distance(player % 2), 576 - 72 * count);
+                C.due("distance of the others", game.distance(1 - player % 2), 576);
+            }
+            PachisiYard near = Scenes.placed(C, 0, Scenes.seenBy(player, new int[] {71, 71, 71, 71}, new int[0],
+                    new int[0], new int[0]));
+            C.due("71 is not home", near.home(player), 0);
         }
     }
 
-    private static void wrongSquaresAndTeams() {
-        PachisiYard game = Scenes.fiveBehind(C);
-        for (int wrong : WRONG_SQUARES) {
-            C.outOfBounds("isSafe " + wrong, game, () -> game.isSafe(wrong));
-            C.outOfBounds("standing, square " + wrong, game, () -> game.standing(wrong, 0));
-            C.outOfBounds("standing, square " + wrong + " goes first", game, () -> game.standing(wrong, 2));
+    // A captured piece "goes to its yard", whosever and whichever it is, and no other one does.
+    private static void capturedOfEachPlayer() {
+        for (int player = 0; player < 4; player++) {
+            for (int piece = 0; piece < 4; piece++) {
+                int[] next = {11, 12, 13, 14};
+                next[piece] = 6;
+                PachisiYard game = Scenes.placed(C, player, Scenes.seenBy(player, new int[] {20}, next, new int[] {10},
+                        new int[] {39, 41}));
+                C.play(game, "3>0");
+                int other = (player + 1) % 4;
+                for (int k = 0; k < 4; k++) {
+                    C.due("of the next player", game.position(other, k), k == piece ? 0 : next[k]);
+                    C.due("counted", game.captures(k), k == player ? 1 : 0);
+                }
+                C.due("no square", game.square(other, piece), -1);
+                C.due("of the partner", game.position((player + 2) % 4, 0), 10);
+                C.due("of the last player", game.position((player + 3) % 4, 0), 39);
+                C.due("of the last player", game.position((player + 3) % 4, 1), 41);
+                C.due("distance", game.distance(other % 2), 576 - 39 - 41 + next[piece] - sum(next));
+            }
         }
-        for (int wrong : WRONG_TEAMS) {
-            C.badArgument("standing, team " + wrong, game, () -> game.standing(0, wrong));
-            C.badArgument("distance, team " + wrong, game, () -> game.distance(wrong));
+    }
+
+    // It "captures that piece": what has the same position elsewhere stays.
+    private static void samePositionIsNotSameSquare() {
+        for (int player = 0; player < 4; player++) {
+            int[] own = {20, 0, 0, 6};
+            PachisiYard game = Scenes.placed(C, player, Scenes.seenBy(player, own, new int[] {6}, new int[] {6},
+                    new int[] {6}));
+            C.play(game, "3>0");
+            C.due("captured", game.position((player + 1) % 4, 0), 0);
+            C.due("one's own stays", game.position(player, 3), 6);
+            C.due("the partner's stays", game.position((player + 2) % 4, 0), 6);
+            C.due("the last player's stays", game.position((player + 3) % 4, 0), 6);
+        }
+    }
+
+    private static int sum(int[] numbers) {
+        int sum = 0;
+        for (int number : numbers) {
+            sum += number;
+        }
+        return sum;
+    }
+
+    // "the sum of 72 less the position over its eight pieces"
+    private static void distanceOfEachPiece() {
+        for (int player = 0; player < 4; player++) {
+            int[] own = {5, 71, 64, 65};
+            PachisiYard game = Scenes.placed(C, player, Scenes.seenBy(player, own, new int[] {30}, new int[] {72, 3},
+                    new int[0]));
+            C.due("distance", game.distance(player % 2), 576 - sum(own) - 75);
+            C.due("distance of the others", game.distance(1 - player % 2), 546);
         }
     }
 }

@@ -1,6 +1,11 @@
 /** Promises 17 to 19: chances. */
 final class ChanceTest {
     private static final Checks C = new Checks();
+    private static final int[] NONE = {};
+    private static final int[] ALL_HOME = {72, 72, 72, 72};
+    // Of the 64 ways, those of the throw that is worth its index.
+    private static final int[] WAYS_BY_WORTH =
+            {0, 0, 15, 20, 15, 6, 1, 0, 0, 0, 6, 0, 0, 0, 0, 0, 0, 0, 0, 0, 0, 0, 0, 0, 0, 1, 0, 0};
 
     public static void main(String[] args) {
         waysOfANewGame();
@@ -9,17 +14,24 @@ final class ChanceTest {
         waysToBringHome();
         waysWithTwoGraces();
         waysForThePartner();
-        wrongWays();
         threats();
         threatsByCastlesAndSafeSquares();
         threatsWithNoGracesAhead();
         threatsByThePartner();
-        wrongThreats();
         chances();
         chancesWithGracesAhead();
         chancesAcrossThePartner();
         chancesLeaveTheBoard();
-        wrongChances();
+        threatByDistance();
+        threatByEachPiece();
+        threatByOthersIsNotCounted();
+        waysAddUp();
+        mostWays();
+        everyThrowCaptures();
+        fifteenBehind();
+        forcedPast();
+        lostGracesAhead();
+        nothingLeftToDo();
         C.end("ChanceTest");
     }
 
@@ -32,6 +44,7 @@ final class ChanceTest {
 
     private static void dueChances(String what, PachisiYard game, int one, int two, int three) {
         C.due(what + ": captureChance(1)", game.captureChance(1), one);
+        C.due(what + ": ways(1)", game.ways(1), one);
         C.due(what + ": captureChance(2)", game.captureChance(2), two);
         C.due(what + ": captureChance(3)", game.captureChance(3), three);
     }
@@ -80,23 +93,6 @@ final class ChanceTest {
 
     private static void waysForThePartner() {
         dueWays("the partner's pieces", Scenes.partnerFiveBehind(C), 64, 6, 0, 8);
-    }
-
-    private static void wrongWays() {
-        PachisiYard game = new PachisiYard();
-        for (int what : new int[] {-1, 4, Integer.MIN_VALUE, Integer.MAX_VALUE}) {
-            C.badArgument("ways(" + what + ")", game, () -> game.ways(what));
-        }
-        game.throwShells(0);
-        PachisiYard over = Scenes.lastPieceAtSeventy(C, 0);
-        C.play(over, "2>3");
-        for (int what = 0; what < 4; what++) {
-            int asked = what;
-            C.notNow("ways ahead of a move", game, () -> game.ways(asked));
-            C.notNow("ways when the game is over", over, () -> over.ways(asked));
-        }
-        C.badArgument("ways(4) ahead of a move", game, () -> game.ways(4));
-        C.badArgument("ways(-1) when the game is over", over, () -> over.ways(-1));
     }
 
     private static void threats() {
@@ -153,26 +149,6 @@ final class ChanceTest {
         C.due("by a player not yet through", six.threat(3, 0, 0), 0);
     }
 
-    private static void wrongThreats() {
-        PachisiYard game = Scenes.fiveBehind(C);
-        for (int wrong : new int[] {-1, 4, Integer.MIN_VALUE, Integer.MAX_VALUE}) {
-            C.outOfBounds("player " + wrong, game, () -> game.threat(wrong, 0, 0));
-            C.outOfBounds("piece " + wrong, game, () -> game.threat(0, wrong, 1));
-            C.outOfBounds("player " + wrong + " goes first", game, () -> game.threat(wrong, 0, 9));
-            C.outOfBounds("piece " + wrong + " goes first", game, () -> game.threat(0, wrong, 2));
-            C.badArgument("by " + wrong, game, () -> game.threat(1, 0, wrong));
-        }
-        for (int wrong : new int[] {-3, -2, 5, 6}) {
-            C.badArgument("by " + wrong, game, () -> game.threat(0, 0, wrong));
-            C.badArgument("by " + wrong, game, () -> game.threat(1, 0, wrong));
-        }
-        for (int player = 0; player < 4; player++) {
-            int asked = player;
-            C.badArgument("by oneself", game, () -> game.threat(asked, 0, asked));
-            C.badArgument("by the partner", game, () -> game.threat(asked, 0, (asked + 2) % 4));
-        }
-    }
-
     private static void chances() {
         dueChances("new", new PachisiYard(), 0, 0, 0);
         // 5 captures at once; a grace that enters a piece leaves the 5 for the next throw: 6 * 64 + 8 * 6, and so on.
@@ -220,20 +196,169 @@ final class ChanceTest {
         }
     }
 
-    private static void wrongChances() {
-        PachisiYard game = new PachisiYard();
-        for (int wrong : new int[] {-1, 0, 4, Integer.MIN_VALUE, Integer.MAX_VALUE}) {
-            C.badArgument("captureChance(" + wrong + ")", game, () -> game.captureChance(wrong));
+    private static PachisiYard placed(int player, int[] own, int[] next, int[] partner, int[] last) {
+        return Scenes.placed(C, player, Scenes.seenBy(player, own, next, partner, last));
+    }
+
+    // "1, 6, 15, 20, 15, 6 and 1 have no, one, and so on up to six mouths up", each found by what it alone can capture.
+    private static void threatByDistance() {
+        for (int player = 0; player < 4; player++) {
+            for (int from = 20; from <= 21; from++) {
+                for (int distance = 2; distance < WAYS_BY_WORTH.length; distance++) {
+                    int at = from + distance;
+                    boolean safe = at == 25 || at == 35 || at == 42;
+                    int due = safe ? 0 : WAYS_BY_WORTH[distance];
+                    dueThreat(player, (player + 1) % 4, due,
+                            placed(player, new int[] {from}, new int[] {at - 17}, NONE, NONE));
+                    dueThreat(player, (player + 3) % 4, due,
+                            placed(player, new int[] {from}, NONE, NONE, new int[] {at + 17}));
+                }
+            }
         }
-        game.throwShells(0);
-        PachisiYard over = Scenes.lastPieceAtSeventy(C, 0);
-        C.play(over, "2>3");
-        for (int throwsLeft = 1; throwsLeft <= 3; throwsLeft++) {
-            int asked = throwsLeft;
-            C.notNow("captureChance ahead of a move", game, () -> game.captureChance(asked));
-            C.notNow("captureChance when the game is over", over, () -> over.captureChance(asked));
+    }
+
+    private static void dueThreat(int player, int other, int due, PachisiYard game) {
+        C.due("threat", game.threat(other, 0, player), due);
+        C.due("ways to capture", game.ways(1), due);
+        C.due("chance to capture by one throw", game.captureChance(1), due);
+        C.due("a piece in the yard", game.threat(other, 1, player), 0);
+        C.due("by the partner in the yard", game.threat(other, 0, (player + 2) % 4), 0);
+        game.throwShells(2);
+        C.due("asked ahead of a move", game.threat(other, 0, player), due);
+    }
+
+    private static void threatByEachPiece() {
+        for (int player = 0; player < 4; player++) {
+            for (int piece = 0; piece < 4; piece++) {
+                int[] own = {50, 50, 50, 50};
+                own[piece] = 20;
+                int[] next = {9, 9, 9, 9};
+                next[3 - piece] = 6;
+                PachisiYard game = placed(player, own, next, NONE, NONE);
+                C.due("three behind", game.threat((player + 1) % 4, 3 - piece, player), 20);
+                C.due("three behind", game.ways(1), 20);
+            }
         }
-        C.badArgument("captureChance(0) ahead of a move", game, () -> game.captureChance(0));
-        C.badArgument("captureChance(4) when the game is over", over, () -> over.captureChance(4));
+    }
+
+    // "with which a player of the other team could capture this piece": with that player's pieces, from their squares.
+    private static void threatByOthersIsNotCounted() {
+        for (int player = 0; player < 4; player++) {
+            PachisiYard next = placed(player, new int[] {30}, new int[] {20, 6}, NONE, NONE);
+            C.due("no piece behind", next.threat((player + 1) % 4, 1, player), 0);
+            PachisiYard last = placed(player, new int[] {30}, NONE, NONE, new int[] {40, 0, 0, 20});
+            C.due("no piece behind", last.threat((player + 3) % 4, 0, player), 0);
+            PachisiYard partner = placed(player, new int[] {30}, new int[] {6}, new int[] {20}, NONE);
+            C.due("no piece behind", partner.threat((player + 1) % 4, 0, player), 0);
+        }
+    }
+
+    // A way counts once, by whichever piece and whatever it captures.
+    private static void waysAddUp() {
+        for (int player = 0; player < 4; player++) {
+            int other = (player + 1) % 4;
+            PachisiYard twoCaptors = placed(player, new int[] {19, 20}, new int[] {6}, NONE, NONE);
+            C.due("three and four behind", twoCaptors.threat(other, 0, player), 35);
+            C.due("three and four behind", twoCaptors.ways(1), 35);
+            PachisiYard sameCaptors = placed(player, new int[] {20, 20}, new int[] {6}, NONE, NONE);
+            C.due("both three behind", sameCaptors.threat(other, 0, player), 20);
+            C.due("both three behind", sameCaptors.ways(1), 20);
+            PachisiYard crossed = placed(player, new int[] {20, 26}, new int[] {6, 12}, NONE, NONE);
+            C.due("each three behind one", crossed.ways(1), 20);
+            C.due("three behind the first", crossed.threat(other, 0, player), 20);
+            C.due("three behind the second", crossed.threat(other, 1, player), 20);
+            PachisiYard partners = placed(player, new int[] {20}, new int[] {6}, new int[] {53}, NONE);
+            C.due("the partner four behind", partners.threat(other, 0, (player + 2) % 4), 15);
+            C.due("not counted for the player", partners.threat(other, 0, player), 20);
+        }
+    }
+
+    // "Returns 0 to 64", of each thing that can be asked for.
+    private static void mostWays() {
+        for (int player = 0; player < 4; player++) {
+            dueWays("all in the yard", placed(player, NONE, NONE, NONE, NONE), 8, 0, 0, 8);
+            dueWays("one on the circuit", placed(player, new int[] {10}, NONE, NONE, NONE), 64, 0, 0, 8);
+            dueWays("two to five from home", placed(player, new int[] {70, 69, 68, 67}, NONE, NONE, NONE),
+                    56, 0, 56, 0);
+            dueWays("25, 10, 6 and 3 from home", placed(player, new int[] {47, 62, 66, 69}, NONE, NONE, NONE),
+                    64, 0, 28, 0);
+            dueWays("72 is passed", placed(player, new int[] {71, 71, 71, 71}, NONE, NONE, NONE), 0, 0, 0, 0);
+            dueWays("all home, the partner in the yard", placed(player, ALL_HOME, NONE, NONE, NONE), 8, 0, 0, 8);
+        }
+    }
+
+    // The greatest chance: "64 to the power of throwsLeft"; with two graces ahead 56 ways are left of the first throw.
+    private static void everyThrowCaptures() {
+        for (int player = 0; player < 4; player++) {
+            int[] next = {60, 61, 62, 63};
+            int[] last = {30, 34, 49};
+            PachisiYard game = placed(player, new int[] {7}, next, NONE, last);
+            dueWays("every throw captures", game, 64, 64, 0, 8);
+            dueChances("every throw captures", game, 64, 64 * 64, 64 * 64 * 64);
+            C.play(game, "6>1");
+            dueChances("one grace ahead", game, 64, 64 * 64, 64 * 64 * 64);
+            C.play(game, "6>2");
+            dueChances("two graces ahead", game, 56, 56 * 64, 56 * 64 * 64);
+            dueWays("two graces ahead", game, 56, 56, 0, 0);
+        }
+    }
+
+    // 10 and then 5, with a grace that a yard's piece takes ahead or between, for oneself and for the partner:
+    // 6 * 6, and 6 * (6 * 64 + 8 * 6) + 2 * 6 * 6.
+    private static void fifteenBehind() {
+        for (int player = 0; player < 4; player++) {
+            dueChances("15 behind", placed(player, new int[] {21}, new int[] {19}, NONE, NONE), 0, 36, 2664);
+            dueChances("15 behind", placed(player, new int[] {0, 0, 0, 21}, new int[] {19}, NONE, NONE), 0, 36, 2664);
+            dueChances("15 behind, for the partner", placed(player, ALL_HOME, NONE, new int[] {21}, new int[] {19}),
+                    0, 36, 2664);
+            PachisiYard grace = placed(player, new int[] {21}, new int[] {19}, NONE, NONE);
+            C.play(grace, "6>1");
+            dueChances("15 behind, a grace ahead", grace, 0, 36, 36 * 64);
+            C.play(grace, "6>1");
+            dueChances("15 behind, two graces ahead", grace, 0, 0, 0);
+        }
+    }
+
+    // With no other piece to move a grace leads past what could be captured later.
+    private static void forcedPast() {
+        for (int player = 0; player < 4; player++) {
+            int[] last = {0, 0, 0, 66};
+            dueChances("forced past", placed(player, new int[] {72, 72, 72, 22}, new int[] {10}, NONE, last),
+                    6, 6 * 64, 6 * 64 * 64);
+            dueChances("one that enters lets it stay behind", placed(player, new int[] {72, 72, 0, 22}, new int[] {10},
+                    NONE, last), 6, 432, 6 * 64 * 64 + 8 * 432);
+        }
+    }
+
+    // "that the third grace in a row is lost is taken into account", also behind graces that were lost.
+    private static void lostGracesAhead() {
+        for (int player = 0; player < 4; player++) {
+            int[] own = {72, 72, 72, 66};
+            PachisiYard game = placed(player, own, NONE, new int[] {20}, new int[] {6});
+            dueWays("no grace ahead", game, 57, 0, 1, 0);
+            // The 6 brings the last piece home, then the partner's piece captures by 3. With three throws there may be
+            // a grace of the partner between the two, or a lost one ahead of them.
+            dueChances("no grace ahead", game, 0, 20, 20 * 64 + 8 * 20 + 7 * 20);
+            C.play(game, "0");
+            dueWays("one lost grace ahead", game, 57, 0, 1, 0);
+            dueChances("one lost grace ahead", game, 0, 20, 20 * 64);
+            C.play(game, "1");
+            dueWays("two lost graces ahead", game, 56, 0, 0, 0);
+            dueChances("two lost graces ahead", game, 0, 0, 0);
+        }
+    }
+
+    // No throw can do anything any more, or none that captures.
+    private static void nothingLeftToDo() {
+        for (int player = 0; player < 4; player++) {
+            PachisiYard stuck = placed(player, new int[] {71, 71, 71, 71}, new int[] {20}, new int[] {5}, NONE);
+            dueChances("all on 71", stuck, 0, 0, 0);
+            PachisiYard through = placed(player, ALL_HOME, new int[] {20}, new int[] {72, 72, 72, 71}, NONE);
+            dueWays("the last piece on 71", through, 0, 0, 0, 0);
+            dueChances("the last piece on 71", through, 0, 0, 0);
+            PachisiYard last = placed(player, ALL_HOME, new int[] {20}, new int[] {72, 72, 72, 66}, NONE);
+            dueWays("the last piece on 66", last, 57, 0, 1, 0);
+            dueChances("the game ends ahead of a capture", last, 0, 0, 0);
+        }
     }
 }

@@ -1,5 +1,11 @@
+import java.util.Arrays;
+import java.util.HashMap;
+import java.util.Map;
+
 /** Games played up to a scene that several tests ask about. */
 final class Scenes {
+    private static final Map<String, String> SCRIPTS = new HashMap<>();
+
     private Scenes() {
     }
 
@@ -7,6 +13,33 @@ final class Scenes {
         PachisiYard game = new PachisiYard();
         c.play(game, script);
         return game;
+    }
+
+    /**
+     * A game whose pieces have been brought to the positions told, for each player and piece, with the player told to
+     * throw and no graces.
+     */
+    static PachisiYard placed(Checks c, int onTurn, int[][] positions) {
+        String script = SCRIPTS.computeIfAbsent(onTurn + Arrays.deepToString(positions),
+                key -> ScriptFinder.scriptTo(onTurn, positions));
+        PachisiYard game = played(c, script);
+        for (int player = 0; player < 4; player++) {
+            for (int piece = 0; piece < positions[player].length; piece++) {
+                c.due(script + ": placed", game.position(player, piece), positions[player][piece]);
+            }
+        }
+        c.due(script + ": to throw", game.onTurn(), onTurn);
+        return game;
+    }
+
+    /** The positions of placed, as seen by a player: its own, and those of the players behind it in order. */
+    static int[][] seenBy(int player, int[] own, int[] next, int[] partner, int[] last) {
+        int[][] positions = new int[4][];
+        positions[player] = own;
+        positions[(player + 1) % 4] = next;
+        positions[(player + 2) % 4] = partner;
+        positions[(player + 3) % 4] = last;
+        return positions;
     }
 
     /** Player 0 to throw, piece 0 on square 19; piece 0 of player 1 is alone five squares ahead, on square 24. */

@@ -1,6 +1,8 @@
 /** Promises 1 to 8: a new object, throwing and moving. */
 final class TurnTest {
     private static final Checks C = new Checks();
+    private static final int[] NONE = {};
+    private static final int[] ALL_HOME = {72, 72, 72, 72};
 
     public static void main(String[] args) {
         newObject();
@@ -8,7 +10,6 @@ final class TurnTest {
         lostThrows();
         thirdGraceIsLost();
         rowOfGracesBreaks();
-        wrongThrows();
         entering();
         goingOn();
         capturing();
@@ -20,25 +21,29 @@ final class TurnTest {
         castleAtTheCircuitsEnd();
         entryBlocked();
         lane();
-        wrongMoves();
-        wrongTimeForMovable();
         partnerMoves();
         partnerMovesWithinTheTurn();
         gameOver();
         gameOverByGrace();
+        turnsGoRound();
+        nonGracesEndTheTurn();
+        anyThreeGraces();
+        thirdGraceCapturesNothing();
+        thirdGraceBringsNothingHome();
+        rowEndsWithTheTurn();
+        rowGoesOnAcrossACapture();
+        captureAfterCapture();
+        moverOfEachPlayer();
+        threeHomeIsNotThrough();
+        partnerEntersAndCaptures();
+        overForEachPlayer();
+        notOverAheadOfTheEighth();
         C.end("TurnTest");
-    }
-
-    private static void dueState(PachisiYard game, String what, int phase, int turn, int mover, int graces) {
-        C.due(what + ": phase", game.phase(), phase);
-        C.due(what + ": onTurn", game.onTurn(), turn);
-        C.due(what + ": mover", game.mover(), mover);
-        C.due(what + ": graces", game.graces(), graces);
     }
 
     private static void newObject() {
         PachisiYard game = new PachisiYard();
-        dueState(game, "new", 0, 0, 0, 0);
+        C.dueState("new", game, 0, 0, 0, 0);
         C.due("new: winner", game.winner(), -1);
         for (int player = 0; player < 4; player++) {
             C.due("new: home", game.home(player), 0);
@@ -49,7 +54,7 @@ final class TurnTest {
         }
         game.throwShells(6);
         game.move(0);
-        dueState(new PachisiYard(), "another new one", 0, 0, 0, 0);
+        C.dueState("another new one", new PachisiYard(), 0, 0, 0, 0);
         C.due("another new one: position", new PachisiYard().position(0, 0), 0);
     }
 
@@ -69,19 +74,19 @@ final class TurnTest {
     private static void lostThrows() {
         PachisiYard game = new PachisiYard();
         for (int step = 0; step < 5; step++) {
-            dueState(game, "step " + step, 0, step % 4, step % 4, 0);
+            C.dueState("step " + step, game, 0, step % 4, step % 4, 0);
             C.due("lost throw", game.throwShells(4), -4);
         }
         PachisiYard held = Scenes.entryHeld(C);
         C.due("lost grace", held.throwShells(0), -25);
-        dueState(held, "after a lost grace", 0, 1, 1, 1);
+        C.dueState("after a lost grace", held, 0, 1, 1, 1);
         C.due("second lost grace", held.throwShells(1), -10);
-        dueState(held, "after two lost graces", 0, 1, 1, 2);
+        C.dueState("after two lost graces", held, 0, 1, 1, 2);
         C.due("third lost grace", held.throwShells(6), -6);
-        dueState(held, "after three lost graces", 0, 2, 2, 0);
+        C.dueState("after three lost graces", held, 0, 2, 2, 0);
         PachisiYard ended = Scenes.entryHeld(C);
         C.play(ended, "0 2");
-        dueState(ended, "a lost throw after a lost grace", 0, 2, 2, 0);
+        C.dueState("a lost throw after a lost grace", ended, 0, 2, 2, 0);
     }
 
     private static void thirdGraceIsLost() {
@@ -89,42 +94,30 @@ final class TurnTest {
         for (int mouths : new int[] {0, 1, 6}) {
             PachisiYard game = Scenes.played(C, "0>0 6>0");
             C.due("third grace", game.throwShells(mouths), -worths[mouths]);
-            dueState(game, "after it", 0, 1, 1, 0);
+            C.dueState("after it", game, 0, 1, 1, 0);
             C.due("no piece moved", game.position(0, 0), 7);
         }
         PachisiYard next = Scenes.played(C, "0>0 6>0 1 | 2 | 2 | 2 | 0>0 6>0");
-        dueState(next, "the row starts anew with the turn", 0, 0, 0, 2);
+        C.dueState("the row starts anew with the turn", next, 0, 0, 0, 2);
         PachisiYard third = Scenes.played(C, "0>0 6>0 5>0");
-        dueState(third, "a third throw that is no grace", 0, 1, 1, 0);
+        C.dueState("a third throw that is no grace", third, 0, 1, 1, 0);
     }
 
     private static void rowOfGracesBreaks() {
         PachisiYard game = Scenes.fiveBehind(C);
         C.play(game, "6>1 6>2");
-        dueState(game, "two graces", 0, 0, 0, 2);
+        C.dueState("two graces", game, 0, 0, 0, 2);
         C.due("throw that is no grace", game.throwShells(5), 5);
-        dueState(game, "the row is broken by the throw", 1, 0, 0, 0);
+        C.dueState("the row is broken by the throw", game, 1, 0, 0, 0);
         C.due("capture", game.move(0), 121);
-        dueState(game, "throws again, with no row", 0, 0, 0, 0);
+        C.dueState("throws again, with no row", game, 0, 0, 0, 0);
         C.due("a new row", game.throwShells(1), 10);
-        dueState(game, "one in a row, before the move too", 1, 0, 0, 1);
+        C.dueState("one in a row, before the move too", game, 1, 0, 0, 1);
         game.move(0);
         C.play(game, "6>3");
-        dueState(game, "two in a row", 0, 0, 0, 2);
+        C.dueState("two in a row", game, 0, 0, 0, 2);
         C.due("three in a row", game.throwShells(6), -6);
-        dueState(game, "lost", 0, 1, 1, 0);
-    }
-
-    private static void wrongThrows() {
-        PachisiYard game = new PachisiYard();
-        for (int mouths : new int[] {-1, 7, Integer.MIN_VALUE, Integer.MAX_VALUE}) {
-            C.badArgument("throwShells(" + mouths + ")", game, () -> game.throwShells(mouths));
-        }
-        game.throwShells(1);
-        C.notNow("throw ahead of a move", game, () -> game.throwShells(2));
-        C.notNow("grace ahead of a move", game, () -> game.throwShells(0));
-        C.badArgument("wrong throw ahead of a move", game, () -> game.throwShells(7));
-        C.due("the throw still stands", game.move(3), 1);
+        C.dueState("lost", game, 0, 1, 1, 0);
     }
 
     private static void entering() {
@@ -132,11 +125,11 @@ final class TurnTest {
             for (int piece = 0; piece < 4; piece++) {
                 PachisiYard game = new PachisiYard();
                 game.throwShells(mouths);
-                dueState(game, "thrown", 1, 0, 0, 1);
+                C.dueState("thrown", game, 1, 0, 0, 1);
                 C.due("movable", game.movable(), 15);
                 C.due("enters on position 1", game.move(piece), 1);
                 C.due("stands there", game.position(0, piece), 1);
-                dueState(game, "a grace throws again", 0, 0, 0, 1);
+                C.dueState("a grace throws again", game, 0, 0, 0, 1);
             }
         }
     }
@@ -145,9 +138,8 @@ final class TurnTest {
         PachisiYard game = Scenes.played(C, "6>1");
         C.due("throw", game.throwShells(5), 5);
         C.due("only the piece on the circuit can move", game.movable(), 2);
-        C.notNow("a piece in the yard", game, () -> game.move(0));
         C.due("moves", game.move(1), 6);
-        dueState(game, "the turn goes on", 0, 1, 1, 0);
+        C.dueState("the turn goes on", game, 0, 1, 1, 0);
         C.play(game, "2 | 2 | 2");
         C.due("25", game.throwShells(0), 25);
         C.due("goes on or enters", game.movable(), 15);
@@ -165,9 +157,9 @@ final class TurnTest {
         C.due("its square holds the capturer", game.standing(24, 0), 1);
         C.due("its square holds no other", game.standing(24, 1), 0);
         C.due("counted", game.captures(0), 1);
-        dueState(game, "throws again", 0, 0, 0, 0);
+        C.dueState("throws again", game, 0, 0, 0, 0);
         C.play(game, "2>0");
-        dueState(game, "the turn goes on", 0, 1, 1, 0);
+        C.dueState("the turn goes on", game, 0, 1, 1, 0);
         for (int piece = 0; piece < 4; piece++) {
             PachisiYard any = Scenes.played(C, "6>3 1>3 5>3 | 6>P 3>P | 2 | 2 | 5>3".replace("P", "" + piece));
             C.due("any piece is captured", any.position(1, piece), 0);
@@ -178,19 +170,19 @@ final class TurnTest {
         shorter.throwShells(4);
         C.due("no capture short of the piece", shorter.move(0), 20);
         C.due("not captured", shorter.position(1, 0), 4);
-        dueState(shorter, "no capture ends the turn", 0, 1, 1, 0);
+        C.dueState("no capture ends the turn", shorter, 0, 1, 1, 0);
     }
 
     private static void capturingWithAGrace() {
         PachisiYard ten = Scenes.tenBehind(C);
         C.due("ten", ten.throwShells(1), 10);
         C.due("captures by ten", ten.move(0), 121);
-        dueState(ten, "one grace, throws again", 0, 0, 0, 1);
+        C.dueState("one grace, throws again", ten, 0, 0, 0, 1);
         C.due("counted", ten.captures(0), 1);
         PachisiYard six = Scenes.played(C, "6>0 1>0 4>0 | 6>0 3>0 | 2 | 2");
         C.due("six", six.throwShells(6), 6);
         C.due("captures by six", six.move(0), 121);
-        dueState(six, "one grace, throws again", 0, 0, 0, 1);
+        C.dueState("one grace, throws again", six, 0, 0, 0, 1);
         C.due("counted", six.captures(0), 1);
     }
 
@@ -204,7 +196,6 @@ final class TurnTest {
         }
         PachisiYard game = Scenes.castleAhead(C);
         game.throwShells(5);
-        C.notNow("coming to stand on the castle", game, () -> game.move(0));
         C.due("the other piece moves", game.move(1), 9);
         PachisiYard ahead = Scenes.played(C, "6>0 1>0 5>0 | 2 | 2 | 2 | 3>0 | 6>0 6>1 6 | 2 | 2");
         C.due("a castle behind", ahead.standing(21, 1), 2);
@@ -217,7 +208,7 @@ final class TurnTest {
         for (int mouths = 2; mouths <= 5; mouths++) {
             PachisiYard game = Scenes.mixedCastle(C);
             C.due("castle of two players", game.throwShells(mouths), -mouths);
-            dueState(game, "lost", 0, 1, 1, 0);
+            C.dueState("lost", game, 0, 1, 1, 0);
         }
         for (int mouths : new int[] {0, 1, 6}) {
             PachisiYard game = Scenes.mixedCastle(C);
@@ -239,7 +230,7 @@ final class TurnTest {
         onto.throwShells(3);
         C.due("onto a single piece of one's own", onto.move(1), 4);
         C.due("no capture", onto.position(0, 0), 4);
-        dueState(onto, "the turn goes on", 0, 1, 1, 0);
+        C.dueState("the turn goes on", onto, 0, 1, 1, 0);
     }
 
     private static void safeSquaresShelter() {
@@ -298,53 +289,26 @@ final class TurnTest {
         C.play(lane, "2 | 2 | 2");
         lane.throwShells(2);
         C.due("a piece at home does not move", lane.movable(), 2);
-        C.notNow("a piece at home", lane, () -> lane.move(0));
-    }
-
-    private static void wrongMoves() {
-        PachisiYard game = new PachisiYard();
-        for (int piece : new int[] {-1, 4, Integer.MIN_VALUE, Integer.MAX_VALUE}) {
-            C.outOfBounds("move(" + piece + ") with no throw", game, () -> game.move(piece));
-        }
-        C.notNow("no throw", game, () -> game.move(0));
-        game.throwShells(0);
-        C.outOfBounds("no such piece", game, () -> game.move(4));
-        C.outOfBounds("no such piece", game, () -> game.move(-1));
-        game.move(0);
-        C.notNow("the throw is used up", game, () -> game.move(0));
-        game.throwShells(2);
-        C.outOfBounds("no such piece by this throw", game, () -> game.move(4));
-        C.notNow("cannot move by it", game, () -> game.move(1));
-        C.due("another can", game.move(0), 3);
-    }
-
-    private static void wrongTimeForMovable() {
-        PachisiYard game = new PachisiYard();
-        C.notNow("movable with no throw", game, game::movable);
-        C.play(game, "2");
-        C.notNow("movable after a lost throw", game, game::movable);
-        C.play(game, "6>0");
-        C.notNow("movable after a move", game, game::movable);
     }
 
     private static void partnerMoves() {
         PachisiYard game = Scenes.playerZeroHome(C);
         C.due("all home", game.home(0), 4);
-        dueState(game, "the next turn", 0, 1, 1, 0);
+        C.dueState("the next turn", game, 0, 1, 1, 0);
         C.play(game, "2 | 2 | 2");
-        dueState(game, "throws for the partner", 0, 0, 2, 0);
+        C.dueState("throws for the partner", game, 0, 0, 2, 0);
         C.due("throw", game.throwShells(6), 6);
-        dueState(game, "moves for the partner", 1, 0, 2, 1);
+        C.dueState("moves for the partner", game, 1, 0, 2, 1);
         C.due("the partner's pieces", game.movable(), 15);
         C.due("enters for the partner", game.move(3), 1);
         C.due("the partner's position", game.position(2, 3), 1);
         C.play(game, "3>3 | 2");
-        dueState(game, "the partner's own turn", 0, 2, 2, 0);
+        C.dueState("the partner's own turn", game, 0, 2, 2, 0);
         C.due("the same pieces", game.position(2, 3), 4);
         PachisiYard capture = Scenes.partnerFiveBehind(C);
         C.due("throw", capture.throwShells(5), 5);
         C.due("captures with the partner's piece", capture.move(0), 121);
-        dueState(capture, "throws again", 0, 0, 2, 0);
+        C.dueState("throws again", capture, 0, 0, 2, 0);
         C.due("counts for the player whose turn it was", capture.captures(0), 1);
         C.due("not for the partner", capture.captures(2), 0);
         C.due("sent to its yard", capture.position(3, 0), 0);
@@ -352,11 +316,11 @@ final class TurnTest {
 
     private static void partnerMovesWithinTheTurn() {
         PachisiYard game = Scenes.lastSixAway(C);
-        dueState(game, "own piece left", 0, 0, 0, 0);
+        C.dueState("own piece left", game, 0, 0, 0, 0);
         C.due("6", game.throwShells(6), 6);
         C.due("only the last piece", game.movable(), 8);
         C.due("home", game.move(3), 72);
-        dueState(game, "throws again for the partner", 0, 0, 2, 1);
+        C.dueState("throws again for the partner", game, 0, 0, 2, 1);
         C.due("5", game.throwShells(5), 5);
         C.due("the partner's piece", game.movable(), 1);
         C.due("captures", game.move(0), 121);
@@ -365,31 +329,235 @@ final class TurnTest {
     private static void gameOver() {
         for (int team = 0; team < 2; team++) {
             PachisiYard game = Scenes.lastPieceAtSeventy(C, team);
-            dueState(game, "one move left", 0, team + 2, team + 2, 0);
+            C.dueState("one move left", game, 0, team + 2, team + 2, 0);
             C.due("no winner yet", game.winner(), -1);
             C.due("2", game.throwShells(2), 2);
             C.due("no winner ahead of the move", game.winner(), -1);
             C.due("home", game.move(3), 72);
-            dueState(game, "over", 2, team + 2, team, 0);
+            C.dueState("over", game, 2, team + 2, team, 0);
             C.due("winner", game.winner(), team);
-            C.notNow("throw", game, () -> game.throwShells(2));
-            C.notNow("grace", game, () -> game.throwShells(0));
-            C.badArgument("wrong throw", game, () -> game.throwShells(-1));
-            C.notNow("move", game, () -> game.move(0));
-            C.outOfBounds("wrong move", game, () -> game.move(4));
-            C.notNow("movable", game, game::movable);
         }
     }
 
     private static void gameOverByGrace() {
         PachisiYard game = Scenes.lastOfTheTeamSixAway(C);
-        dueState(game, "player 0 throws for player 2", 0, 0, 2, 0);
+        C.dueState("player 0 throws for player 2", game, 0, 0, 2, 0);
         C.due("2 too few", game.position(2, 3), 66);
         game.throwShells(6);
         C.due("home by a grace", game.move(3), 72);
         C.due("over", game.phase(), 2);
         C.due("who moved last", game.onTurn(), 0);
         C.due("winner", game.winner(), 0);
-        C.notNow("no throw again", game, () -> game.throwShells(2));
+    }
+
+    private static PachisiYard placed(int player, int[] own, int[] next, int[] partner, int[] last) {
+        return Scenes.placed(C, player, Scenes.seenBy(player, own, next, partner, last));
+    }
+
+    // "then come the players 1, 2, 3, 0 and so on", whatever ends the turn.
+    private static void turnsGoRound() {
+        for (int player = 0; player < 4; player++) {
+            int next = player == 3 ? 0 : player + 1;
+            PachisiYard lost = placed(player, NONE, NONE, NONE, NONE);
+            C.dueState("ahead of a lost throw", lost, 0, player, player, 0);
+            lost.throwShells(5);
+            C.dueState("behind a lost throw", lost, 0, next, next, 0);
+            PachisiYard moved = placed(player, new int[] {20}, NONE, NONE, NONE);
+            C.play(moved, "2>0");
+            C.dueState("behind a move", moved, 0, next, next, 0);
+            PachisiYard graces = placed(player, new int[] {20}, NONE, NONE, NONE);
+            C.play(graces, "6>0 1>0 0");
+            C.dueState("behind a third grace", graces, 0, next, next, 0);
+            C.play(graces, "3 | 3 | 3");
+            C.dueState("round again", graces, 0, player, player, 0);
+        }
+    }
+
+    // "A throw with no, one or six mouths up is a grace", and no other one.
+    private static void nonGracesEndTheTurn() {
+        for (int mouths = 0; mouths <= 6; mouths++) {
+            boolean grace = mouths <= 1 || mouths == 6;
+            PachisiYard game = placed(0, new int[] {20}, NONE, NONE, NONE);
+            game.throwShells(mouths);
+            C.dueState("thrown " + mouths, game, 1, 0, 0, grace ? 1 : 0);
+            game.move(0);
+            C.dueState("moved by " + mouths, game, 0, grace ? 0 : 1, grace ? 0 : 1, grace ? 1 : 0);
+        }
+    }
+
+    // "But the third grace in a row within a turn is lost, and the turn goes to the next player."
+    private static void anyThreeGraces() {
+        int[] graces = {0, 1, 6};
+        int[] worths = {25, 10, 6};
+        for (int k = 0; k < 27; k++) {
+            PachisiYard game = new PachisiYard();
+            C.due("first", game.throwShells(graces[k / 9]), worths[k / 9]);
+            C.due("enters", game.move(0), 1);
+            C.dueState("one grace", game, 0, 0, 0, 1);
+            C.due("second", game.throwShells(graces[k / 3 % 3]), worths[k / 3 % 3]);
+            C.due("goes on", game.move(0), 1 + worths[k / 3 % 3]);
+            C.dueState("two graces", game, 0, 0, 0, 2);
+            C.due("third", game.throwShells(graces[k % 3]), -worths[k % 3]);
+            C.dueState("three graces", game, 0, 1, 1, 0);
+            C.due("has not moved", game.position(0, 0), 1 + worths[k / 3 % 3]);
+        }
+    }
+
+    private static void thirdGraceCapturesNothing() {
+        for (int player = 0; player < 4; player++) {
+            int other = (player + 1) % 4;
+            PachisiYard game = placed(player, new int[] {20}, new int[] {9}, NONE, NONE);
+            C.due("six behind", game.threat(other, 0, player), 1);
+            C.play(game, "6>1 6>2 6");
+            C.due("not captured", game.position(other, 0), 9);
+            C.due("none counted", game.captures(player), 0);
+            C.due("has not moved", game.position(player, 0), 20);
+            C.dueState("the next turn", game, 0, other, other, 0);
+        }
+    }
+
+    private static void thirdGraceBringsNothingHome() {
+        PachisiYard one = placed(0, new int[] {66}, NONE, NONE, NONE);
+        C.play(one, "6>1 1>1 6");
+        C.due("not home", one.home(0), 0);
+        PachisiYard last = placed(0, new int[] {72, 72, 72, 66}, NONE, new int[] {72, 72, 72, 72}, NONE);
+        C.play(last, "0 1");
+        C.dueState("two lost graces", last, 0, 0, 0, 2);
+        C.due("third", last.throwShells(6), -6);
+        C.dueState("not over", last, 0, 1, 1, 0);
+        C.due("no winner", last.winner(), -1);
+        PachisiYard second = placed(0, new int[] {72, 72, 72, 66}, NONE, new int[] {72, 72, 72, 72}, NONE);
+        C.play(second, "0 6>3");
+        C.due("over by the second grace", second.winner(), 0);
+    }
+
+    // "within a turn": two graces do not count for the next turn of the same player.
+    private static void rowEndsWithTheTurn() {
+        for (int player = 0; player < 4; player++) {
+            PachisiYard game = placed(player, new int[] {10}, NONE, NONE, NONE);
+            C.play(game, "6>0 6>0 2>0 | 2 | 2 | 2");
+            C.dueState("a new turn", game, 0, player, player, 0);
+            C.play(game, "6>0 6>0");
+            C.dueState("two graces again", game, 0, player, player, 2);
+        }
+    }
+
+    // "in a row": a capture gives another throw, but breaks the row only if its throw was no grace.
+    private static void rowGoesOnAcrossACapture() {
+        PachisiYard game = placed(0, new int[] {20}, new int[] {9}, NONE, NONE);
+        C.due("six", game.throwShells(6), 6);
+        C.due("captures by a grace", game.move(0), 126);
+        C.dueState("one throw again, not two", game, 0, 0, 0, 1);
+        C.play(game, "6>1");
+        C.dueState("two graces", game, 0, 0, 0, 2);
+        C.due("the third grace", game.throwShells(0), -25);
+        C.dueState("lost", game, 0, 1, 1, 0);
+        PachisiYard second = placed(0, new int[] {20}, new int[] {9}, NONE, NONE);
+        C.play(second, "0>1 6>0");
+        C.due("captured by the second grace", second.captures(0), 1);
+        C.dueState("two graces", second, 0, 0, 0, 2);
+        C.play(second, "6");
+        C.dueState("the third is lost", second, 0, 1, 1, 0);
+    }
+
+    // "or a piece was captured with it, the player whose turn it is throws again", as often as that is so.
+    private static void captureAfterCapture() {
+        for (int player = 0; player < 4; player++) {
+            PachisiYard game = placed(player, new int[] {20}, new int[] {6, 10, 12}, NONE, NONE);
+            int[] mouths = {3, 4, 2};
+            int position = 20;
+            for (int k = 0; k < 3; k++) {
+                game.throwShells(mouths[k]);
+                position += mouths[k];
+                C.due("captures", game.move(0), 100 + position);
+                C.due("counted", game.captures(player), k + 1);
+                C.dueState("throws again", game, 0, player, player, 0);
+            }
+            C.play(game, "5>0");
+            C.dueState("ends", game, 0, (player + 1) % 4, (player + 1) % 4, 0);
+        }
+    }
+
+    // "The mover is the player whose turn it is, or, if all four pieces of that player are home, the partner."
+    private static void moverOfEachPlayer() {
+        for (int player = 0; player < 4; player++) {
+            PachisiYard game = placed(player, ALL_HOME, NONE, NONE, NONE);
+            C.dueState("all home", game, 0, player, (player + 2) % 4, 0);
+            C.play(game, "2");
+            for (int k = 1; k < 4; k++) {
+                int other = (player + k) % 4;
+                C.dueState("not home", game, 0, other, other, 0);
+                C.play(game, "2");
+            }
+            C.dueState("all home, again", game, 0, player, (player + 2) % 4, 0);
+        }
+    }
+
+    private static void threeHomeIsNotThrough() {
+        for (int player = 0; player < 4; player++) {
+            PachisiYard game = placed(player, new int[] {72, 72, 72, 71}, NONE, new int[] {20}, NONE);
+            C.dueState("three home", game, 0, player, player, 0);
+            C.due("no way to move", game.ways(0), 0);
+            C.due("lost", game.throwShells(2), -2);
+            C.due("the partner's piece stays", game.position((player + 2) % 4, 0), 20);
+        }
+    }
+
+    private static void partnerEntersAndCaptures() {
+        for (int player = 0; player < 4; player++) {
+            int partner = (player + 2) % 4;
+            PachisiYard game = placed(player, ALL_HOME, NONE, NONE, NONE);
+            game.throwShells(0);
+            C.dueState("a grace for the partner", game, 1, player, partner, 1);
+            C.due("all four of the partner", game.movable(), 15);
+            C.due("enters", game.move(3), 1);
+            C.due("the partner's piece", game.position(partner, 3), 1);
+            C.due("one's own piece", game.position(player, 3), 72);
+            PachisiYard captor = placed(player, ALL_HOME, new int[] {40}, new int[] {20}, NONE);
+            C.due("the partner's way", captor.threat((player + 1) % 4, 0, player), 20);
+            captor.throwShells(3);
+            C.due("captures", captor.move(0), 123);
+            C.dueState("throws again", captor, 0, player, partner, 0);
+            C.due("counts for the player whose turn it was", captor.captures(player), 1);
+            C.due("not for the partner", captor.captures(partner), 0);
+            C.due("in its yard", captor.position((player + 1) % 4, 0), 0);
+        }
+    }
+
+    // "The game is over when all eight pieces of a team are home; the turn does not go on then."
+    private static void overForEachPlayer() {
+        for (int player = 0; player < 4; player++) {
+            dueOver(placed(player, new int[] {72, 72, 72, 70}, NONE, ALL_HOME, NONE), player, 2, 0);
+            dueOver(placed(player, ALL_HOME, NONE, new int[] {72, 72, 72, 70}, NONE), player, 2, 0);
+            dueOver(placed(player, new int[] {72, 72, 72, 66}, NONE, ALL_HOME, NONE), player, 6, 1);
+            dueOver(placed(player, ALL_HOME, NONE, new int[] {72, 72, 72, 66}, NONE), player, 6, 1);
+        }
+    }
+
+    private static void dueOver(PachisiYard game, int player, int mouths, int graces) {
+        C.due("no winner yet", game.winner(), -1);
+        C.due("some way to go", game.distance(player % 2) > 0, true);
+        C.due("thrown", game.throwShells(mouths), mouths);
+        C.due("no winner ahead of the move", game.winner(), -1);
+        C.dueState("ahead of the move", game, 1, player, game.mover(), graces);
+        C.due("home", game.move(3), 72);
+        C.dueState("over", game, 2, player, (player + 2) % 4, graces);
+        C.due("winner", game.winner(), player % 2);
+        C.due("no way to go", game.distance(player % 2), 0);
+        C.due("all the way for the others", game.distance(1 - player % 2), 576);
+    }
+
+    private static void notOverAheadOfTheEighth() {
+        for (int player = 0; player < 4; player++) {
+            PachisiYard seven = placed(player, new int[] {72, 72, 70, 69}, NONE, ALL_HOME, NONE);
+            C.play(seven, "2>2");
+            C.dueState("seven home", seven, 0, (player + 1) % 4, (player + 1) % 4, 0);
+            C.due("no winner", seven.winner(), -1);
+            PachisiYard eight = placed(player, new int[] {72, 72, 72, 70}, ALL_HOME, NONE, NONE);
+            C.play(eight, "2>3");
+            int next = (player + 1) % 4;
+            C.dueState("eight home, of both teams", eight, 0, next, (next + 2) % 4, 0);
+            C.due("no winner", eight.winner(), -1);
+        }
     }
 }
