@@ -51,7 +51,44 @@ final class FaceTest {
         for (Field field : face.getDeclaredFields()) {
             C.due(field.getName() + " is private", Modifier.isPrivate(field.getModifiers()), true);
         }
+        rulesOfTheLanguage(face);
         C.end("FaceTest");
+    }
+
+    /** Of LANGUAGE.md what can be seen from outside: its rules 1, 2, 5 and 11. */
+    private static void rulesOfTheLanguage(Class<?> face) {
+        C.due("classes in the file, some twelve at most", face.getDeclaredClasses().length <= 11, true);
+        keepsTheRules(face);
+        for (Class<?> inside : face.getDeclaredClasses()) {
+            int modifiers = inside.getModifiers();
+            C.due(inside + " is static", Modifier.isStatic(modifiers), true);
+            C.due(inside + " is open", Modifier.isPublic(modifiers) || Modifier.isProtected(modifiers), false);
+            keepsTheRules(inside);
+        }
+    }
+
+    private static void keepsTheRules(Class<?> type) {
+        int kept = 0;
+        for (Field field : type.getDeclaredFields()) {
+            boolean isStatic = Modifier.isStatic(field.getModifiers());
+            kept += isStatic ? 0 : 1;
+            C.due(field + " is final if static", !isStatic || Modifier.isFinal(field.getModifiers()), true);
+        }
+        C.due("fields of " + type + ", some twenty at most", kept <= 20, true);
+        for (Method method : type.getDeclaredMethods()) {
+            boolean hidden = Modifier.isPrivate(method.getModifiers()) || type != PachisiYard.class;
+            C.due(method + " bears a public name", hidden && bearsAPublicName(method), false);
+            C.due(method + " takes seven parameters at most", method.getParameterCount() <= 7, true);
+        }
+    }
+
+    private static boolean bearsAPublicName(Method method) {
+        for (String open : FACE) {
+            if (open.contains(" " + method.getName() + "[")) {
+                return true;
+            }
+        }
+        return false;
     }
 
     private static String pictureOf(Method method) {
